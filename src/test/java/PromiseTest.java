@@ -1,0 +1,3 @@
+public final class PromiseTest {
+    public static void main(String[] args) { }
+}
