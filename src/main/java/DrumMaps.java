@@ -430,7 +430,7 @@ public final class DrumMaps {
     }
 
     private static int figureOf(int letter) {
-        return within(letter, '0', '9') ? letter - '0' : NOT_SO;
+        return letter >= '0' && letter <= '9' ? letter - '0' : NOT_SO;
     }
 
     private static int modulo(int number, int many) {
