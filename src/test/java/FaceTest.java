@@ -20,6 +20,14 @@ public final class FaceTest {
         "import ", "->", "::", "synchronized", "assert ", "finally", "try ", "catch ", "throw ", "lambda", "package ",
         "equals(Object", "hashCode", "toString", "System.out", "System.nano", "System.current", "Random"};
 
+    /** As the document tells it: what the interface says ahead of which calls. */
+    private static final String[] PARTS = {
+        "---- forests: write wipe fault lay place drum kind traveller route truth",
+        "---- hours: pass rain retune give send undo",
+        "---- what comes: arrives loses led fastest tune meet clash right",
+        "---- what was heard: hear forget which seen",
+        "---- rain, years: rains year keep back count"};
+
     private static final Checks CHECKS = new Checks();
 
     public static void main(String[] args) throws Exception {
@@ -27,6 +35,7 @@ public final class FaceTest {
         constants();
         classesInside();
         source();
+        partsOfTheInterface();
         CHECKS.end();
     }
 
@@ -96,6 +105,22 @@ public final class FaceTest {
         }
         CHECKS.due("makes something", made > 0 ? 1 : 0, 1);
         methodsStayShort(source.split("\n"));
+    }
+
+    private static void partsOfTheInterface() throws Exception {
+        String source = Files.readString(Path.of("src/main/java/DrumMaps.java"));
+        int at = source.indexOf("public DrumMaps()");
+        for (String part : PARTS) {
+            String[] said = part.split(": ");
+            int next = source.indexOf("// " + said[0] + "\n", at);
+            CHECKS.due(said[0], next > at ? 1 : 0, 1);
+            for (String name : said[1].split(" ")) {
+                at = next;
+                next = source.indexOf("public int " + name + "(", at);
+                CHECKS.due(name + " behind " + said[0], next > at ? 1 : 0, 1);
+            }
+            at = next;
+        }
     }
 
     private static void methodsStayShort(String[] lines) {

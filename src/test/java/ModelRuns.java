@@ -1,4 +1,3 @@
-import java.lang.reflect.Method;
 import java.util.ArrayList;
 import java.util.List;
 import java.util.Random;
@@ -22,7 +21,7 @@ public final class ModelRuns {
         chance = new Random(seed);
     }
 
-    public static void main(String[] args) throws Exception {
+    public static void main(String[] args) {
         int runs = args.length > 0 ? Integer.parseInt(args[0]) : 300;
         int from = args.length > 1 ? Integer.parseInt(args[1]) : 0;
         int wrong = 0;
@@ -37,7 +36,7 @@ public final class ModelRuns {
         if (wrong != 0) System.exit(1);
     }
 
-    private boolean go() throws Exception {
+    private boolean go() {
         boolean ok = true;
         if (chance.nextInt(8) != 0) {
             ok = write(chance.nextInt(6) == 0 ? spoiled(forest()) : forest()) && call("fault") && call("lay");
@@ -52,7 +51,7 @@ public final class ModelRuns {
         return ok;
     }
 
-    private boolean write(String text) throws Exception {
+    private boolean write(String text) {
         boolean ok = call("wipe");
         for (int i = 0; ok && i < text.length() && calls < CALLS - 3; i++) ok = call("write", text.charAt(i));
         return ok;
@@ -107,7 +106,7 @@ public final class ModelRuns {
         return chance.nextInt(Math.max(1, below));
     }
 
-    private boolean callByChance() throws Exception {
+    private boolean callByChance() {
         int p = model.count(0);
         int d = model.count(2);
         int t = model.count(3);
@@ -140,25 +139,14 @@ public final class ModelRuns {
         }
     }
 
-    private boolean call(String name, int... numbers) throws Exception {
+    private boolean call(String name, int... numbers) {
         calls++;
-        int got = answer(DrumMaps.class, maps, name, numbers);
-        int due = answer(Model.class, model, name, numbers);
+        int got = Calls.ask(maps, name, numbers);
+        int due = Calls.ask(model, name, numbers);
         if (!name.equals("write") || got != due) told.add(name + java.util.Arrays.toString(numbers) + "=" + got);
         else told.add("" + (char) numbers[0]);
         if (got == due) return true;
         told.add("!! due is " + due);
         return false;
-    }
-
-    private static int answer(Class<?> of, Object who, String name, int[] numbers) throws Exception {
-        Class<?>[] types = new Class<?>[numbers.length];
-        Object[] given = new Object[numbers.length];
-        for (int i = 0; i < numbers.length; i++) {
-            types[i] = int.class;
-            given[i] = numbers[i];
-        }
-        Method m = of.getDeclaredMethod(name, types);
-        return (Integer) m.invoke(who, given);
     }
 }

@@ -887,6 +887,9 @@ public final class PromiseTest {
         // DRAW by 2048: z 9006: 65505, so 31, FORD; z 1523: 55289, so 26, HILL.
         year(x, 9006, 1, 0, 0);
         year(x, 1523, 1, 0, 2);
+        // At the very edges of "by 2048, cut": z 7081: 6145, so 3, FORD; z 9742: 40969, so 20, OPEN; both of place 0.
+        year(laid("r30;d0;x0,0,1;t1,0,0;w2;"), 7081, 1, 0, 0);
+        year(laid("r30;d0;t1,0,0;w2;"), 9742, 1, 0, 1);
         year(laid("r30;d0;t1,0,0;w2;"), 0, 1, 0, 1);
         // z 8: DRAW 48233: drum 6029, place 1507, to 3: told, a ford in the rain can not be entered.
         year(laid("r00;d0;t0,1,0;w2;"), 3, 2, 1, 0);
