@@ -11,7 +11,7 @@ import java.util.regex.Pattern;
 
 /** The face of the class is the document's and nothing else, and its file keeps to what a look can tell of LANGUAGE.md. */
 public final class FaceTest {
-    private static final String[] FACE = {
+    static final String[] FACE = {
         "write 1", "wipe 0", "fault 0", "lay 0", "place 1", "drum 3", "kind 1", "traveller 2", "route 4", "truth 2",
         "pass 1", "rain 1", "retune 3", "give 2", "send 2", "undo 0", "arrives 1", "loses 1", "led 3", "fastest 1",
         "tune 1", "meet 2", "clash 3", "right 2", "hear 2", "forget 0", "which 0", "seen 3", "rains 4", "year 3",
@@ -21,7 +21,7 @@ public final class FaceTest {
         "equals(Object", "hashCode", "toString", "System.out", "System.nano", "System.current", "Random"};
 
     /** As the document tells it: what the interface says ahead of which calls. */
-    private static final String[] PARTS = {
+    static final String[] PARTS = {
         "---- forests: write wipe fault lay place drum kind traveller route truth",
         "---- hours: pass rain retune give send undo",
         "---- what comes: arrives loses led fastest tune meet clash right",
